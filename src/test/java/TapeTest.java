@@ -13,6 +13,7 @@ public final class TapeTest {
         roomForOpen();
         wrongAmounts();
         firstByPlace();
+        readsAnew();
         Check.finish();
     }
 
@@ -107,6 +108,9 @@ public final class TapeTest {
         Check.fault("wish 5 if titl == 1;", 1, 10);
         Check.fault("wish 5 if episodeepisode == 1;", 1, 10);
         Check.fault("wishwish 5 if live;", 1, 0);
+        Check.fault("fish 5 if live;", 1, 0);
+        Check.fault("never if livez;", 1, 9);
+        Check.fault("never if liveand first;", 1, 9);
         Check.fault("Wish 5 if live;", 1, 0);
         Check.fault("wish 5 if live.", 1, 14);
         Check.fault("wish 5 if live\u000b;", 1, 14);
@@ -213,5 +217,27 @@ public final class TapeTest {
         Check.fault("wish 0 if (((((((1", 2, 16);
         Check.fault("never if (((((((1 x", 2, 15);
         Check.fault("never if x (((((((1", 1, 9);
+    }
+
+    /** What a faulty text left behind does not matter to the next one. */
+    private static void readsAnew() {
+        String[] faulty = {"wish", "wish 0 if live;", "wish 5 if", "wish 5 if (((1 + 2 * 3", "wish 5 if 1 == 2 + ",
+            "wish 5 if live and 1 == 2 or 1 < ", "never if live" + Check.repeat(" or live", 199) + ";",
+            Check.repeat("never if live;", 21), "never if (((((((1", "wish 5 if 1 ==", "wish 5 if 1 == 1 and live x"};
+        for (String text : faulty) {
+            GuideDesk desk = new GuideDesk();
+            desk.source(1);
+            desk.notice(0, 0, 0, 5, 1, 1, false);
+            Check.due("a fault", true, Check.read(desk, text) != 0);
+            Check.due("a read after it", 0, Check.read(desk, "never if live" + Check.repeat(" or live", 198) + ";"));
+            Check.due("its place", -1, desk.place());
+            Check.due("a fault", true, Check.read(desk, text) != 0);
+            Check.due("a read after it", 0, Check.read(desk, "wish 7 if ((((((1)))))) + 1 == 2; wish 8 if live;"));
+            Check.due("its weight", 7, desk.showing(0, 1, 6));
+            Check.due("its first rule", 1, desk.holds(0, 0, 1));
+            Check.due("its second rule", 0, desk.holds(1, 0, 1));
+            Check.due("a wrong operand", 1, Check.read(desk, "never if 1;"));
+            Check.due("the wrong operand's place", 10, desk.place());
+        }
     }
 }
