@@ -348,17 +348,16 @@ public final class GuideDesk {
             return source != null;
         }
 
-        boolean isWordOf(Source speaker, int ofChannel, int slot) {
-            return source != null && source.number == speaker.number
-                    && channel == ofChannel && from <= slot && slot < until;
+        boolean isWordOf(Source speaker) {
+            return source != null && source.number == speaker.number;
+        }
+
+        boolean hasSlot(int ofChannel, int slot) {
+            return channel == ofChannel && from <= slot && slot < until;
         }
 
         int trust() {
             return source == null ? 0 : source.trust;
-        }
-
-        boolean yieldsTo(Fact later) {
-            return source == null || later.source == null || !source.outranks(later.source);
         }
     }
 
@@ -368,6 +367,8 @@ public final class GuideDesk {
         int sourceCount = 0;
         int told = 0;
         private final Source[] sources = new Source[MOST_SOURCES];
+        // The same sources, the one that every other outranks first.
+        private final Source[] ranked = new Source[MOST_SOURCES];
         private final Fact[] facts = new Fact[MOST_FACTS];
 
         boolean hasChannel(int channel) {
@@ -382,17 +383,28 @@ public final class GuideDesk {
             return number >= 0 && number < sourceCount && number < sources.length ? sources[number] : null;
         }
 
+        Source rankedAt(int rank) {
+            return rank >= 0 && rank < sourceCount && rank < ranked.length ? ranked[rank] : null;
+        }
+
         Fact factAt(int number) {
             return number >= 0 && number < told && number < facts.length ? facts[number] : null;
         }
 
         int addSource(int trust) {
-            if (sourceCount >= sources.length) {
+            if (sourceCount >= sources.length || sourceCount >= ranked.length) {
                 return NONE;
             }
-            sources[sourceCount] = new Source(sourceCount, trust);
+            Source added = new Source(sourceCount, trust);
+            sources[sourceCount] = added;
+            int rank = sourceCount;
+            while (rank > 0 && ranked[rank - 1] != null && ranked[rank - 1].outranks(added)) {
+                ranked[rank] = ranked[rank - 1];
+                rank--;
+            }
+            ranked[rank] = added;
             sourceCount++;
-            return sourceCount - 1;
+            return added.number;
         }
 
         int tell(Fact fact) {
@@ -407,7 +419,7 @@ public final class GuideDesk {
         int latestWord(Source speaker, int channel, int slot, int n) {
             for (int i = n - 1; i >= 0; i--) {
                 Fact fact = factAt(i);
-                if (fact != null && fact.isWordOf(speaker, channel, slot)) {
+                if (fact != null && fact.isWordOf(speaker) && fact.hasSlot(channel, slot)) {
                     return i;
                 }
             }
@@ -466,7 +478,6 @@ public final class GuideDesk {
                 Arrays.fill(rows[channel], NONE);
             }
             layNotices(ledger);
-            clearGaps(ledger);
             pushByOvers(ledger);
             collectShowings(ledger);
         }
@@ -492,35 +503,23 @@ public final class GuideDesk {
             return NONE;
         }
 
+        // What a better source says covers what was laid before it, and so does a later word of the same source.
         private void layNotices(Ledger ledger) {
-            for (int i = 0; i < knownBy; i++) {
-                Fact fact = ledger.factAt(i);
-                if (fact != null && fact.isNotice() && fact.channel >= 0 && fact.channel < width) {
-                    layNotice(ledger, rows[fact.channel], i, fact);
-                }
-            }
-        }
-
-        private static void layNotice(Ledger ledger, int[] row, int number, Fact notice) {
-            int until = Math.min(notice.until, row.length);
-            for (int slot = Math.max(notice.from, 0); slot < until; slot++) {
-                Fact holder = ledger.factAt(row[slot]);
-                if (holder == null || holder.yieldsTo(notice)) {
-                    row[slot] = number;
-                }
-            }
-        }
-
-        // Only after all notices are laid: the word that nothing is sent must quarrel like any other.
-        private void clearGaps(Ledger ledger) {
-            for (int channel = 0; channel < width; channel++) {
-                int[] row = rows[channel];
-                for (int slot = 0; slot < row.length; slot++) {
-                    Fact notice = ledger.factAt(row[slot]);
-                    if (notice != null && notice.title == 0) {
-                        row[slot] = NONE;
+            for (int rank = 0; rank < ledger.sourceCount; rank++) {
+                Source source = ledger.rankedAt(rank);
+                for (int i = 0; i < knownBy && source != null; i++) {
+                    Fact fact = ledger.factAt(i);
+                    if (fact != null && fact.isWordOf(source) && fact.channel >= 0 && fact.channel < width) {
+                        layNotice(rows[fact.channel], fact, fact.title == 0 ? NONE : i);
                     }
                 }
+            }
+        }
+
+        private static void layNotice(int[] row, Fact notice, int number) {
+            int until = Math.min(notice.until, row.length);
+            for (int slot = Math.max(notice.from, 0); slot < until; slot++) {
+                row[slot] = number;
             }
         }
 
