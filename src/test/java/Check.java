@@ -4,17 +4,25 @@ import java.util.Arrays;
 /** What the tests share: comparing answers, and bringing a text of wishes onto the tape. */
 final class Check {
     static final int NONE = GuideDesk.NONE;
+    static final int LEAST = Integer.MIN_VALUE;
+    static final int GREATEST = Integer.MAX_VALUE;
     private static int asked = 0;
     private static int wrong = 0;
+    private static String heading = "";
 
     private Check() {
+    }
+
+    /** The answers from here on are what these words of the document ask: a wrong one is printed with them. */
+    static void promise(int number, String words) {
+        heading = "promise " + number + " \"" + words + "\": ";
     }
 
     static void due(String what, long want, long got) {
         asked++;
         if (got != want) {
             wrong++;
-            System.out.println(what + " answered " + got + ", due is " + want);
+            System.out.println(heading + what + " answered " + got + ", due is " + want);
         }
     }
 
@@ -59,9 +67,5 @@ final class Check {
 
     static int word(byte[] bytes, int at) {
         return (bytes[at] & 255) << 24 | (bytes[at + 1] & 255) << 16 | (bytes[at + 2] & 255) << 8 | bytes[at + 3] & 255;
-    }
-
-    static String repeat(String part, int times) {
-        return part.repeat(times);
     }
 }

@@ -1,25 +1,38 @@
+import java.util.Arrays;
+
 /** Promises 12 sent, 13 says, 14 showing, 15 showings: what quarrelling sources and overs make of a day. */
 public final class DayTest {
     public static void main(String[] args) {
         says();
+        saysOfNoSuchOnes();
         quarrel();
+        trustsOfAllKinds();
         knownBy();
-        noSuchOnes();
+        sentOfNoSuchOnes();
+        gaps();
         overPushes();
+        shortestAndLongestOver();
         overLeavesGapsOut();
+        overWithGapsEnough();
         overAtTheDaysEnd();
+        overWithTheLastSlotFree();
         overAtTheDaysBegin();
         overDoesNothing();
         oversInOrder();
         showings();
+        showingsAtTheDaysEdges();
+        showingOfNoSuchOnes();
+        showingsOfNoSuchOnes();
         runsOfOneNotice();
         oneAndDoubted();
+        doubtedAlone();
         allMarks();
         mostShowings();
         Check.finish();
     }
 
     private static void says() {
+        Check.promise(13, "What a SOURCE says of SLOT t of a CHANNEL, as KNOWN by n: its FACT; NONE: nothing");
         GuideDesk desk = new GuideDesk();
         desk.channels(2);
         desk.source(1);
@@ -44,20 +57,36 @@ public final class DayTest {
         Check.due("known by 3", 0, desk.says(0, 0, 12, 3));
         Check.due("known by 1", 0, desk.says(0, 0, 15, 1));
         Check.due("known by 0", -1, desk.says(0, 0, 15, 0));
-        Check.due("source 2", -1, desk.says(2, 0, 15, 6));
-        Check.due("source -1", -1, desk.says(-1, 0, 15, 6));
-        Check.due("channel 2", -1, desk.says(0, 2, 15, 6));
-        Check.due("channel -1", -1, desk.says(0, -1, 15, 6));
-        Check.due("slot -1", -1, desk.says(0, 0, -1, 6));
-        Check.due("slot 288", -1, desk.says(0, 0, 288, 6));
-        Check.due("n 7", -1, desk.says(0, 0, 15, 7));
-        Check.due("n -1", -1, desk.says(0, 0, 15, -1));
         desk.notice(0, 1, 0, 288, 3, 1, false);
         Check.due("from slot 0", 6, desk.says(0, 1, 0, 7));
         Check.due("to slot 287", 6, desk.says(0, 1, 287, 7));
     }
 
+    private static void saysOfNoSuchOnes() {
+        Check.promise(13, "NONE: no such ones");
+        GuideDesk desk = new GuideDesk();
+        desk.channels(2);
+        desk.source(5);
+        desk.source(6);
+        desk.notice(0, 0, 0, 288, 1, 1, false);
+        desk.notice(1, 0, 0, 288, 1, 1, false);
+        desk.notice(0, 1, 0, 288, 1, 1, false);
+        Check.due("source 0", 0, desk.says(0, 0, 0, 3));
+        Check.due("the last of all", 1, desk.says(1, 0, 287, 3));
+        Check.due("the last channel", 2, desk.says(0, 1, 287, 3));
+        Check.due("the last fact is not known", -1, desk.says(0, 1, 287, 2));
+        int[][] wrong = {{-1, 0, 0, 3}, {2, 0, 0, 3}, {6, 0, 0, 3}, {Check.LEAST, 0, 0, 3}, {Check.GREATEST, 0, 0, 3},
+            {0, -1, 0, 3}, {0, 2, 0, 3}, {0, 6, 0, 3}, {0, Check.LEAST, 0, 3}, {0, Check.GREATEST, 0, 3}, {0, 0, -1, 3},
+            {0, 0, 288, 3}, {0, 0, Check.LEAST, 3}, {0, 0, Check.GREATEST, 3}, {0, 0, 0, -1}, {0, 0, 0, 4},
+            {0, 0, 0, 301}, {0, 0, 0, Check.LEAST}, {0, 0, 0, Check.GREATEST}};
+        for (int[] row : wrong) {
+            Check.due("says " + Arrays.toString(row), -1, desk.says(row[0], row[1], row[2], row[3]));
+        }
+    }
+
     private static void quarrel() {
+        Check.promise(12, "by the SOURCE with the greatest TRUST, of the same the least, that says something of it "
+            + "(also that nothing is sent)");
         GuideDesk desk = new GuideDesk();
         desk.source(5);
         desk.source(5);
@@ -80,7 +109,27 @@ public final class DayTest {
         Check.due("its earlier", -1, desk.sent(0, 23, 6));
     }
 
+    private static void trustsOfAllKinds() {
+        Check.promise(12, "by the SOURCE with the greatest TRUST, of the same the least");
+        // Each row: the trusts of six sources, and the source by which all is sent.
+        int[][] rows = {{1, 2, 3, 4, 5, 9, 5}, {9, 5, 4, 3, 2, 1, 0}, {1, 1, 1, 1, 1, 1, 0}, {9, 9, 9, 9, 9, 9, 0},
+            {8, 9, 8, 9, 8, 9, 1}, {1, 1, 2, 1, 1, 2, 2}, {7, 7, 8, 6, 9, 9, 4}};
+        for (int[] row : rows) {
+            for (int order = 0; order < 2; order++) {
+                GuideDesk desk = new GuideDesk();
+                for (int i = 0; i < 6; i++) {
+                    desk.source(row[i]);
+                }
+                for (int i = 0; i < 6; i++) {
+                    desk.notice(order == 0 ? i : 5 - i, 0, 3, 4, 1, 1, false);
+                }
+                Check.due("sent of " + Arrays.toString(row), order == 0 ? row[6] : 5 - row[6], desk.sent(0, 3, 6));
+            }
+        }
+    }
+
     private static void knownBy() {
+        Check.promise(12, "as KNOWN by n: the first n of them");
         GuideDesk desk = new GuideDesk();
         desk.source(5);
         for (int i = 0; i < 5; i++) {
@@ -93,24 +142,44 @@ public final class DayTest {
         Check.due("the first notice again", 0, desk.sent(0, 0, 5));
     }
 
-    private static void noSuchOnes() {
+    private static void sentOfNoSuchOnes() {
+        Check.promise(12, "NONE: no such ones");
         GuideDesk desk = new GuideDesk();
+        desk.channels(2);
         desk.source(5);
         desk.notice(0, 0, 0, 288, 1, 1, false);
-        int[][] wrong = {{-1, 0, 1}, {1, 0, 1}, {0, -1, 1}, {0, 288, 1}, {0, 0, -1}, {0, 0, 2},
-            {0, Integer.MAX_VALUE, 1}, {Integer.MIN_VALUE, 0, 1}};
+        desk.notice(0, 1, 0, 288, 1, 1, false);
+        Check.due("slot 0", 0, desk.sent(0, 0, 2));
+        Check.due("slot 287", 0, desk.sent(0, 287, 2));
+        Check.due("the last channel", 1, desk.sent(1, 287, 2));
+        Check.due("known by 1", -1, desk.sent(1, 287, 1));
+        Check.due("known by 0", -1, desk.sent(0, 0, 0));
+        int[][] wrong = {{-1, 0, 2}, {2, 0, 2}, {6, 0, 2}, {Check.LEAST, 0, 2}, {Check.GREATEST, 0, 2}, {0, -1, 2},
+            {0, 288, 2}, {0, Check.LEAST, 2}, {0, Check.GREATEST, 2}, {0, 0, -1}, {0, 0, 3}, {0, 0, 301},
+            {0, 0, Check.LEAST}, {0, 0, Check.GREATEST}};
         for (int[] row : wrong) {
-            Check.due("sent " + row[0] + " " + row[1] + " " + row[2], -1, desk.sent(row[0], row[1], row[2]));
-        }
-        Check.due("showings -1", -1, desk.showings(-1));
-        Check.due("showings 2", -1, desk.showings(2));
-        int[][] none = {{-1, 1, 0}, {1, 1, 0}, {0, 2, 0}, {0, -1, 0}, {0, 0, 0}, {0, 1, -1}, {0, 1, 9}};
-        for (int[] row : none) {
-            Check.due("showing " + row[0] + " " + row[1] + " " + row[2], -1, desk.showing(row[0], row[1], row[2]));
+            Check.due("sent " + Arrays.toString(row), -1, desk.sent(row[0], row[1], row[2]));
         }
     }
 
+    private static void gaps() {
+        Check.promise(12, "NONE: a GAP (nothing said, or that nothing is sent)");
+        GuideDesk desk = new GuideDesk();
+        desk.source(5);
+        desk.source(4);
+        desk.notice(0, 0, 2, 8, 1, 1, false);
+        desk.notice(0, 0, 4, 5, 0, 0, false);
+        desk.notice(1, 0, 4, 9, 2, 1, false);
+        row(desk, 3, "..00.0002...");
+        desk.notice(0, 0, 0, 288, 0, 0, false);
+        Check.due("a day of nothing", 0, desk.showings(4));
+        row(desk, 4, "............");
+        Check.due("its last slot", -1, desk.sent(0, 287, 4));
+        Check.due("it is said all the same", 3, desk.says(0, 0, 287, 4));
+    }
+
     private static void overPushes() {
+        Check.promise(12, "SLOTS t .. t + d - 1 have it, too; the SLOTS that stood from t on are pushed d later, in order");
         GuideDesk desk = new GuideDesk();
         desk.channels(2);
         desk.source(5);
@@ -127,7 +196,26 @@ public final class DayTest {
         row(desk, 6, "00000000000000 1111111111 22222 ...");
     }
 
+    private static void shortestAndLongestOver() {
+        Check.promise(12, "what is sent at SLOT t - 1 goes on for d SLOTS more (1 .. 48)");
+        int[] lengths = {1, 2, 47, 48};
+        for (int d : lengths) {
+            GuideDesk desk = new GuideDesk();
+            desk.source(5);
+            desk.notice(0, 0, 0, 100, 1, 1, true);
+            desk.notice(0, 0, 100, 160, 2, 1, false);
+            desk.over(0, 100, d);
+            Check.due("goes on for " + d, 0, desk.sent(0, 99 + d, 3));
+            Check.due("no longer", 1, desk.sent(0, 100 + d, 3));
+            Check.due("pushed to its end", 1, desk.sent(0, 159 + d, 3));
+            Check.due("no further", -1, desk.sent(0, 160 + d, 3));
+            Check.due("two showings", 2, desk.showings(3));
+        }
+    }
+
     private static void overLeavesGapsOut() {
+        Check.promise(12, "where a GAP stood among them it is left out, as long as something is pushed, "
+            + "and what is behind is pushed one less");
         GuideDesk desk = new GuideDesk();
         desk.source(5);
         desk.notice(0, 0, 0, 3, 1, 1, true);
@@ -156,7 +244,36 @@ public final class DayTest {
         Check.due("of one notice", 12, more.showing(1, 5, 3));
     }
 
+    private static void overWithGapsEnough() {
+        Check.promise(12, "where a GAP stood among them it is left out, as long as something is pushed");
+        // As many gaps as slots, one less, one more; all at once, or one by one.
+        String[][] rows = {{"00..11", "0000 11", "2"}, {"00.11", "0000 11", "2"}, {"00...11", "0000. 11", "2"},
+            {"00.1.1", "0000 11", "2"}, {"001..1", "0000 1 1", "2"}, {"001...1", "0000 1.1", "2"}, {"0011", "0000 11", "2"},
+            {"00.1.1", "000 1.1", "1"}, {"00", "0000000", "5"}, {"00....1", "0000000 1", "5"}, {"00.....1", "0000000 1", "5"},
+            {"00......1", "0000000. 1", "5"}, {"00.1.1.1.1.1.1", "00000 111.1.1.1", "3"}};
+        for (String[] drawn : rows) {
+            GuideDesk desk = new GuideDesk();
+            desk.source(5);
+            desk.notice(0, 0, 0, 2, 1, 1, true);
+            desk.notice(0, 0, 2, drawn[0].length(), 2, 1, false);
+            int n = 2;
+            for (int t = 2; t < drawn[0].length(); t++) {
+                if (drawn[0].charAt(t) == '.') {
+                    desk.notice(0, 0, t, t + 1, 0, 0, false);
+                    n++;
+                }
+            }
+            if (drawn[0].length() == 2) {
+                n = 1;
+            }
+            row(desk, n, drawn[0] + "...");
+            desk.over(0, 2, Integer.parseInt(drawn[2]));
+            row(desk, n + 1, drawn[1] + "...");
+        }
+    }
+
     private static void overAtTheDaysEnd() {
+        Check.promise(12, "What comes beyond SLOT 287 is left out");
         GuideDesk desk = new GuideDesk();
         desk.source(5);
         desk.notice(0, 0, 0, 280, 1, 1, true);
@@ -177,7 +294,34 @@ public final class DayTest {
         Check.due("the last slot", 0, last.sent(0, 287, 2));
     }
 
+    private static void overWithTheLastSlotFree() {
+        Check.promise(12, "What comes beyond SLOT 287 is left out");
+        // Two slots more: with two free slots behind it what is last stays, with less it goes.
+        for (int end = 285; end <= 288; end++) {
+            GuideDesk desk = new GuideDesk();
+            desk.source(5);
+            desk.notice(0, 0, 270, 275, 1, 1, true);
+            desk.notice(0, 0, 275, end - 1, 2, 1, false);
+            desk.notice(0, 0, end - 1, end, 3, 1, false);
+            desk.over(0, 275, 2);
+            boolean stays = end <= 286;
+            Check.due("how many where the last one ended at " + end, stays ? 3 : 2, desk.showings(4));
+            Check.due("the last one that ended at " + end, stays ? 2 : 1, desk.sent(0, Math.min(end + 1, 287), 4));
+        }
+        for (int t = 240; t <= 287; t++) {
+            GuideDesk desk = new GuideDesk();
+            desk.source(5);
+            desk.notice(0, 0, t - 1, t, 1, 1, true);
+            desk.notice(0, 0, t, 288, 2, 1, false);
+            desk.over(0, t, 48);
+            Check.due("nothing but what goes on from " + t, 0, desk.sent(0, 287, 3));
+            Check.due("one showing from " + t, 1, desk.showings(3));
+            Check.due("to the day's end", 288, desk.showing(0, 3, 3));
+        }
+    }
+
     private static void overAtTheDaysBegin() {
+        Check.promise(12, "what is sent at SLOT t - 1 goes on");
         GuideDesk desk = new GuideDesk();
         desk.source(5);
         desk.notice(0, 0, 0, 1, 1, 1, true);
@@ -193,6 +337,7 @@ public final class DayTest {
     }
 
     private static void overDoesNothing() {
+        Check.promise(12, "if SLOT t - 1 has a NOTICE that is LIVE (else it does nothing)");
         GuideDesk desk = new GuideDesk();
         desk.source(5);
         desk.notice(0, 0, 0, 5, 1, 1, false);
@@ -204,9 +349,18 @@ public final class DayTest {
         Check.due("nothing is sent", -1, desk.sent(0, 9, 5));
         Check.due("nothing is said", -1, desk.sent(0, 100, 5));
         Check.due("one showing", 1, desk.showings(5));
+        // What is live ends ahead of slot t - 1, or begins at t.
+        desk.notice(0, 0, 20, 25, 4, 1, true);
+        desk.over(0, 26, 3);
+        desk.over(0, 20, 3);
+        Check.due("it has ended", -1, desk.sent(0, 25, 8));
+        Check.due("a slot later, too", -1, desk.sent(0, 26, 8));
+        Check.due("it has not begun", 5, desk.sent(0, 20, 8));
+        Check.due("it is as long as before", 5, desk.sent(0, 24, 8));
     }
 
     private static void oversInOrder() {
+        Check.promise(12, "Then the OVERS KNOWN, in order, each on the row that is there");
         GuideDesk desk = new GuideDesk();
         desk.source(5);
         // The over is told first: it does nothing until there is something live.
@@ -222,9 +376,22 @@ public final class DayTest {
         Check.due("no further", -1, desk.sent(0, 19, 4));
         desk.notice(0, 0, 5, 10, 3, 1, false);
         Check.due("no longer live", 2, desk.sent(0, 10, 5));
+        // At slot 6 there is fact 1, or, where the other over came first, fact 0.
+        int[][] orders = {{7, 5}, {5, 7}};
+        String[] drawn = {"0000000 1111111 ..", "000000000 11111 .."};
+        for (int i = 0; i < orders.length; i++) {
+            GuideDesk two = new GuideDesk();
+            two.source(5);
+            two.notice(0, 0, 0, 5, 1, 1, true);
+            two.notice(0, 0, 5, 10, 2, 1, true);
+            two.over(0, orders[i][0], 2);
+            two.over(0, orders[i][1], 2);
+            row(two, 4, drawn[i]);
+        }
     }
 
     private static void showings() {
+        Check.promise(14, "numbered from 0 on by their first SLOT, then CHANNEL");
         GuideDesk desk = new GuideDesk();
         desk.channels(3);
         desk.source(5);
@@ -245,7 +412,59 @@ public final class DayTest {
         Check.due("until 288", 288, desk.showing(4, 5, 3));
     }
 
+    private static void showingsAtTheDaysEdges() {
+        Check.promise(14, "2: first SLOT, 3: the SLOT behind the last one");
+        GuideDesk desk = new GuideDesk();
+        desk.channels(6);
+        desk.source(5);
+        desk.notice(0, 5, 0, 1, 1, 1, false);
+        desk.notice(0, 5, 287, 288, 2, 31, true);
+        desk.notice(0, 0, 0, 288, 31, 1, false);
+        int[][] due = {{2, 0, 0, 288, 31, 1}, {0, 5, 0, 1, 1, 1}, {1, 5, 287, 288, 2, 31}};
+        Check.due("showings", due.length, desk.showings(3));
+        for (int k = 0; k < due.length; k++) {
+            for (int what = 0; what < due[k].length; what++) {
+                Check.due("showing " + k + " what " + what, due[k][what], desk.showing(k, 3, what));
+            }
+        }
+    }
+
+    private static void showingOfNoSuchOnes() {
+        Check.promise(14, "NONE for others");
+        GuideDesk desk = new GuideDesk();
+        desk.source(5);
+        desk.notice(0, 0, 0, 288, 1, 1, false);
+        desk.notice(0, 0, 5, 288, 2, 0, false);
+        Check.due("the last", 1, desk.showing(1, 2, 0));
+        Check.due("what 8", -1, desk.showing(1, 2, 8));
+        int[][] wrong = {{-1, 2, 0}, {2, 2, 0}, {1, 1, 0}, {600, 2, 0}, {Check.LEAST, 2, 0}, {Check.GREATEST, 2, 0},
+            {0, 3, 0}, {0, -1, 0}, {0, 0, 0}, {0, 301, 0}, {0, Check.LEAST, 0}, {0, Check.GREATEST, 0}, {0, 2, -1},
+            {0, 2, 9}, {0, 2, 10}, {0, 2, Check.LEAST}, {0, 2, Check.GREATEST}};
+        for (int[] row : wrong) {
+            Check.due("showing " + Arrays.toString(row), -1, desk.showing(row[0], row[1], row[2]));
+        }
+    }
+
+    private static void showingsOfNoSuchOnes() {
+        Check.promise(15, "How many SHOWINGS there are, as KNOWN by n; NONE: no such n");
+        GuideDesk desk = new GuideDesk();
+        int[] wrong = {-1, 1, 300, Check.LEAST, Check.GREATEST};
+        for (int n : wrong) {
+            Check.due("without facts, showings " + n, -1, desk.showings(n));
+        }
+        Check.due("without facts", 0, desk.showings(0));
+        desk.source(5);
+        desk.notice(0, 0, 0, 5, 1, 1, false);
+        Check.due("known by none", 0, desk.showings(0));
+        Check.due("known by all", 1, desk.showings(1));
+        Check.due("known by one more", -1, desk.showings(2));
+        Check.due("known by -1", -1, desk.showings(-1));
+        desk.notice(0, 0, 5, 6, 1, 1, false);
+        Check.due("that one more", 2, desk.showings(2));
+    }
+
     private static void runsOfOneNotice() {
+        Check.promise(14, "runs of SLOTS of a CHANNEL with one NOTICE, as long as can be");
         GuideDesk desk = new GuideDesk();
         desk.source(5);
         desk.notice(0, 0, 0, 5, 1, 1, false);
@@ -258,6 +477,8 @@ public final class DayTest {
     }
 
     private static void oneAndDoubted() {
+        Check.promise(14, "7: the least SHOWING that is ONE with it (itself, too), "
+            + "8: the first other one that is DOUBTED with it");
         GuideDesk desk = new GuideDesk();
         desk.source(5);
         int[][] marks = {{1, 0}, {1, 2}, {1, 0}, {2, 2}, {1, 2}, {1, 3}, {2, 2}, {3, 0}};
@@ -272,7 +493,35 @@ public final class DayTest {
         }
     }
 
+    private static void doubtedAlone() {
+        Check.promise(14, "8: the first other one that is DOUBTED with it (NONE)");
+        GuideDesk desk = new GuideDesk();
+        desk.source(5);
+        desk.notice(0, 0, 0, 1, 31, 0, false);
+        Check.due("alone, itself is no other", -1, desk.showing(0, 1, 8));
+        Check.due("alone, one with itself", 0, desk.showing(0, 1, 7));
+        desk.notice(0, 0, 2, 3, 31, 31, false);
+        desk.notice(0, 0, 4, 5, 31, 31, false);
+        int[] doubted = {1, 0, 0};
+        int[] least = {0, 1, 1};
+        for (int k = 0; k < 3; k++) {
+            Check.due("doubted with " + k, doubted[k], desk.showing(k, 3, 8));
+            Check.due("one with " + k, least[k], desk.showing(k, 3, 7));
+        }
+        Check.due("as known by 1", -1, desk.showing(0, 1, 8));
+        Check.due("as known by 2", 1, desk.showing(0, 2, 8));
+        // Two runs of a notice without an episode are doubted, and not one.
+        GuideDesk runs = new GuideDesk();
+        runs.source(5);
+        runs.notice(0, 0, 0, 9, 1, 0, false);
+        runs.notice(0, 0, 4, 5, 2, 1, false);
+        Check.due("the other run", 2, runs.showing(0, 2, 8));
+        Check.due("and back", 0, runs.showing(2, 2, 8));
+        Check.due("they are not one", 2, runs.showing(2, 2, 7));
+    }
+
     private static void allMarks() {
+        Check.promise(14, "Two of them are ONE if their TITLES, and their EPISODES, not 0, are alike");
         int[][] marks = {{31, 31}, {1, 31}, {2, 1}, {31, 30}, {30, 31}, {1, 1}, {31, 1}, {2, 31}, {30, 30}, {3, 1}};
         GuideDesk desk = new GuideDesk();
         desk.channels(2);
@@ -297,6 +546,7 @@ public final class DayTest {
     }
 
     private static void mostShowings() {
+        Check.promise(15, "How many SHOWINGS there are");
         GuideDesk desk = new GuideDesk();
         desk.channels(6);
         desk.source(5);

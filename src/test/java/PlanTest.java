@@ -7,20 +7,29 @@ public final class PlanTest {
         nothing();
         noSuchN();
         full();
+        fullRefused();
+        weightAboveNothing();
         greatestWeight();
         tuners();
+        tunersSlotBySlot();
         leadAndTail();
+        spansOfTheDay();
         room();
+        roomToTheSlot();
         ones();
         leastSpans();
         firstByWhoIsIn();
         rivals();
         began();
+        beganToTheSlot();
+        underWayToTheSlot();
         underWayComesFirst();
         underWayByItsMarks();
         underWayByItsOwnSpan();
         keepsItsOwnTime();
         plansAnew();
+        everyWhy();
+        withoutAPlan();
         noSuchCandidate();
         Check.finish();
     }
@@ -45,6 +54,7 @@ public final class PlanTest {
     }
 
     private static void nothing() {
+        Check.promise(17, "A PLAN, as KNOWN by n: its WEIGHT; it is the one at hand");
         GuideDesk desk = desk(new int[][] {{0, 0, 5, 9, 1}});
         Check.due("no candidates", 0, desk.plan(1));
         Check.due("a plan is at hand", 0, desk.count(5));
@@ -53,6 +63,7 @@ public final class PlanTest {
     }
 
     private static void noSuchN() {
+        Check.promise(17, "NONE, and nothing happens: no such n");
         GuideDesk desk = desk(new int[][] {{0, 0, 5, 1, 1}, {0, 5, 9, 2, 1}});
         Check.due("n -1", -1, desk.plan(-1));
         Check.due("n 3", -1, desk.plan(3));
@@ -64,9 +75,14 @@ public final class PlanTest {
         Check.due("another plan", 2, desk.count(8));
         Check.due("n 0", 0, desk.plan(0));
         Check.due("an empty plan", 0, desk.count(5));
+        int[] wrong = {-1, 5, 300, 301, Check.LEAST, Check.GREATEST};
+        for (int n : wrong) {
+            Refusal.due("plan " + n, -1, d -> d.plan(n));
+        }
     }
 
     private static void full() {
+        Check.promise(17, "more than 14 are FULL");
         GuideDesk desk = desk(new int[0][]);
         for (int i = 0; i < 15; i++) {
             desk.notice(0, i % 6, 2 * i, 2 * i + 2, 1, i + 1, false);
@@ -84,7 +100,58 @@ public final class PlanTest {
         Check.due("its showing", 15, desk.candidate(0, 0));
     }
 
+    /** A plan of fourteen at hand, a fifteenth told since then, and a text with few candidates on the tape. */
+    private static GuideDesk fifteen() {
+        GuideDesk desk = desk(new int[0][]);
+        for (int i = 0; i < 15; i++) {
+            desk.notice(0, i % 6, 2 * i, 2 * i + 2, 1, i + 1, false);
+        }
+        desk.plan(14);
+        Check.type(desk, Check.bytes("wish 1 if from < 4;"));
+        return desk;
+    }
+
+    private static void fullRefused() {
+        Check.promise(17, "-2: FULL");
+        Refusal.due("fifteen", -2, PlanTest::fifteen, desk -> desk.plan(15));
+        GuideDesk first = new GuideDesk();
+        first.source(1);
+        for (int i = 0; i < 100; i++) {
+            first.notice(0, 0, i, i + 1, 1, 0, false);
+        }
+        Check.read(first, "wish 1 if title == 1;");
+        Check.due("a hundred", -2, first.plan(100));
+        Check.due("there is no plan", -1, first.count(5));
+        Check.due("nor a candidate", -1, first.candidate(0, 0));
+        Check.due("fourteen of them", 14, first.plan(14));
+        // What can't be in the plan is a candidate, too.
+        first.clock(200);
+        Check.due("fifteen that have begun", -2, first.plan(15));
+        Check.due("fourteen that were under way", 14, first.plan(14));
+        Check.read(first, "wish 1 if title == 1; never if from == 7;");
+        Check.due("fifteen but for one that has no weight", 13, first.plan(15));
+        Check.due("fourteen candidates", 14, first.count(5));
+        Check.due("the last began, and was not under way", 1, first.candidate(13, 2));
+        Check.due("sixteen but for one", -2, first.plan(16));
+    }
+
+    private static void weightAboveNothing() {
+        Check.promise(17, "CANDIDATES are the SHOWINGS with a WEIGHT above 0");
+        GuideDesk desk = desk(new int[][] {{0, 0, 5, 1, 1}, {0, 10, 15, 8, 1}, {0, 20, 25, 2, 1}, {0, 30, 35, 31, 0}});
+        Check.due("without the two that no wish holds for", 3, desk.plan(4));
+        candidates("the others", desk, 0, 0, 2);
+        Check.read(desk, "wish 1000 if title == 31; wish 1 if title == 8; wish 5 if from == 0; never if from == 0;");
+        Check.due("the least weight and the greatest", 1001, desk.plan(4));
+        candidates("without a never", desk, 0, 1, 3);
+        Check.read(desk, "never if title == 31;");
+        Check.due("none", 0, desk.plan(4));
+        Check.due("no candidates", 0, desk.count(5));
+        Check.due("none is in", 0, desk.count(6));
+        Check.due("no spans", 0, desk.count(7));
+    }
+
     private static void greatestWeight() {
+        Check.promise(17, "of these the greatest WEIGHT together");
         GuideDesk desk = desk(new int[][] {{0, 0, 10, 3, 1}, {1, 5, 20, 5, 1}, {2, 15, 30, 3, 2}, {3, 40, 41, 9, 1},
             {4, 50, 51, 1, 1}});
         Check.due("two of three", 7, desk.plan(5));
@@ -98,6 +165,7 @@ public final class PlanTest {
     }
 
     private static void tuners() {
+        Check.promise(17, "in each SLOT at most TUNERS SPANS");
         int[][] notices = {{0, 0, 10, 1, 1}, {1, 5, 15, 2, 1}, {2, 9, 20, 3, 1}, {3, 10, 12, 4, 1}};
         int[] due = {5, 8, 10};
         for (int tuners = 1; tuners <= 3; tuners++) {
@@ -113,7 +181,32 @@ public final class PlanTest {
         candidates("two tuners", desk, 3, -1, -1, 3, -1);
     }
 
+    private static void tunersSlotBySlot() {
+        Check.promise(17, "in each SLOT at most TUNERS SPANS");
+        for (int tuners = 1; tuners <= 3; tuners++) {
+            for (int from = 8; from <= 11; from++) {
+                GuideDesk desk = desk(new int[0][]);
+                for (int channel = 0; channel < tuners; channel++) {
+                    desk.notice(0, channel, 0, 10, 5, 1 + channel, false);
+                }
+                desk.notice(0, tuners, from, 40, 5, 9, false);
+                desk.recorder(tuners, 0, 0, 2000);
+                boolean fits = from >= 10;
+                String name = tuners + " tuners, from " + from;
+                Check.due(name, 5 * (tuners + (fits ? 1 : 0)), desk.plan(tuners + 1));
+                Check.due(name + ", why", fits ? 0 : 3, desk.candidate(tuners, 2));
+                Check.due(name + ", by whom", fits ? -1 : 0, desk.candidate(tuners, 3));
+            }
+        }
+        // The first slot of one and the last slot of the other are the same.
+        GuideDesk day = desk(new int[][] {{0, 0, 1, 5, 1}, {1, 0, 288, 4, 1}, {2, 287, 288, 5, 2}});
+        Check.due("the day's edges", 10, day.plan(3));
+        candidates("the day's edges", day, 2, 0, 3, 0);
+        candidates("the day's edges", day, 3, -1, 0, -1);
+    }
+
     private static void leadAndTail() {
+        Check.promise(17, "A SHOWING's SPAN is its SLOTS, and LEAD ahead, and TAIL behind");
         GuideDesk desk = desk(new int[][] {{0, 10, 20, 1, 1}, {1, 25, 30, 2, 1}, {2, 284, 288, 3, 1}});
         desk.recorder(1, 5, 0, 2000);
         Check.due("lead reaches the end", 6, desk.plan(3));
@@ -130,7 +223,24 @@ public final class PlanTest {
         Check.due("of 0 .. 287", 11 + 9, edge.count(7));
     }
 
+    private static void spansOfTheDay() {
+        Check.promise(17, "A SHOWING's SPAN is its SLOTS, and LEAD ahead, and TAIL behind (of 0 .. 287)");
+        int[] froms = {0, 1, 5, 6, 7, 280, 281, 282, 286, 287};
+        int[] due = {7, 8, 12, 13, 13, 13, 13, 12, 8, 7};
+        for (int i = 0; i < froms.length; i++) {
+            GuideDesk desk = desk(new int[][] {{0, froms[i], froms[i] + 1, 5, 1}});
+            desk.recorder(1, 6, 6, 2000);
+            Check.due("from " + froms[i], 5, desk.plan(1));
+            Check.due("its span from " + froms[i], due[i], desk.count(7));
+        }
+        GuideDesk whole = desk(new int[][] {{0, 0, 288, 5, 1}});
+        whole.recorder(1, 6, 6, 288);
+        Check.due("the whole day", 5, whole.plan(1));
+        Check.due("its span", 288, whole.count(7));
+    }
+
     private static void room() {
+        Check.promise(17, "SPANS together at most ROOM");
         GuideDesk desk = desk(new int[][] {{0, 0, 10, 3, 1}, {0, 10, 16, 2, 1}, {0, 16, 20, 2, 2}});
         desk.recorder(1, 0, 0, 20);
         Check.due("all fit", 7, desk.plan(3));
@@ -148,7 +258,28 @@ public final class PlanTest {
         Check.due("none is in", 0, desk.count(6));
     }
 
+    private static void roomToTheSlot() {
+        Check.promise(17, "SPANS together at most ROOM");
+        for (int room = 13; room <= 16; room++) {
+            GuideDesk desk = desk(new int[][] {{0, 50, 60, 5, 1}});
+            desk.recorder(1, 2, 3, room);
+            boolean fits = room >= 15;
+            Check.due("room " + room, fits ? 5 : 0, desk.plan(1));
+            Check.due("why with room " + room, fits ? 0 : 4, desk.candidate(0, 2));
+            Check.due("by whom", -1, desk.candidate(0, 3));
+        }
+        int[] rooms = {0, 1, 287, 288, 575, 576, 863, 864, 2000};
+        int[] due = {0, 0, 0, 1, 1, 2, 2, 3, 3};
+        for (int i = 0; i < rooms.length; i++) {
+            GuideDesk days = desk(new int[][] {{0, 0, 288, 1, 1}, {1, 0, 288, 1, 2}, {2, 0, 288, 1, 3}});
+            days.recorder(3, 0, 0, rooms[i]);
+            Check.due("whole days, room " + rooms[i], due[i], days.plan(3));
+            Check.due("their spans", 288 * due[i], days.count(7));
+        }
+    }
+
     private static void ones() {
+        Check.promise(18, "2 one in the PLAN is ONE with it, 3 with it a SLOT would have too many SPANS, 4 ROOM");
         GuideDesk desk = desk(new int[][] {{0, 0, 10, 5, 1}, {1, 20, 28, 5, 1}, {2, 30, 38, 5, 0}, {3, 40, 48, 5, 0}});
         Check.due("one of two, and the doubted", 15, desk.plan(4));
         candidates("ones", desk, 1, 0, 1, 1, 1);
@@ -168,6 +299,7 @@ public final class PlanTest {
     }
 
     private static void leastSpans() {
+        Check.promise(17, "of these the least SPANS together");
         GuideDesk desk = desk(new int[][] {{0, 0, 10, 5, 1}, {1, 5, 14, 5, 2}, {2, 8, 18, 5, 3}});
         Check.due("the shortest", 5, desk.plan(3));
         candidates("the shortest", desk, 1, 0, 1, 0);
@@ -175,6 +307,7 @@ public final class PlanTest {
     }
 
     private static void firstByWhoIsIn() {
+        Check.promise(17, "of these that which has the least CANDIDATE that is not in both, and so on");
         GuideDesk desk = desk(new int[][] {{0, 0, 10, 5, 1}, {1, 5, 15, 5, 2}, {2, 8, 18, 5, 3}});
         Check.due("as good", 5, desk.plan(3));
         candidates("the first", desk, 1, 1, 0, 0);
@@ -197,6 +330,7 @@ public final class PlanTest {
     }
 
     private static void rivals() {
+        Check.promise(18, "of 3 the one with the least WEIGHT (the first such) whose SPAN has a SLOT with it in common");
         GuideDesk desk = desk(new int[][] {{0, 0, 10, 4, 1}, {1, 5, 40, 6, 1}, {2, 12, 20, 3, 1}, {3, 25, 35, 3, 2}});
         Check.due("three for one", 10, desk.plan(4));
         candidates("three for one", desk, 2, 0, 3, 0, 0);
@@ -215,6 +349,7 @@ public final class PlanTest {
     }
 
     private static void began() {
+        Check.promise(18, "1 its SPAN began ahead of the CLOCK and it was not UNDER WAY");
         GuideDesk desk = desk(new int[][] {{0, 10, 20, 7, 1}, {1, 15, 20, 2, 1}, {2, 16, 20, 7, 1}});
         desk.clock(10);
         Check.due("at its first slot", 7, desk.plan(3));
@@ -233,7 +368,45 @@ public final class PlanTest {
         Check.due("its span begins now", 7, lead.plan(1));
     }
 
+    private static void beganToTheSlot() {
+        Check.promise(18, "1 its SPAN began ahead of the CLOCK and it was not UNDER WAY");
+        for (int lead = 0; lead <= 6; lead++) {
+            for (int from : new int[] {2, 6, 10, 287}) {
+                int begin = Math.max(from - lead, 0);
+                for (int now = Math.max(begin - 1, 0); now <= Math.min(begin + 1, 287); now++) {
+                    GuideDesk desk = desk(new int[][] {{0, from, from + 1, 5, 1}});
+                    desk.recorder(1, lead, 0, 2000);
+                    desk.clock(now);
+                    String name = "from " + from + ", lead " + lead + ", clock " + now;
+                    Check.due(name, now <= begin ? 5 : 0, desk.plan(1));
+                    candidates(name, desk, 2, now <= begin ? 0 : 1);
+                    candidates(name, desk, 3, -1);
+                    candidates(name, desk, 4, 0);
+                }
+            }
+        }
+    }
+
+    private static void underWayToTheSlot() {
+        Check.promise(17, "UNDER WAY are the SHOWINGS of the PLAN at hand whose SPAN begins ahead of it");
+        for (int lead = 0; lead <= 6; lead++) {
+            for (int from : new int[] {2, 6, 10, 286, 287}) {
+                int begin = Math.max(from - lead, 0);
+                for (int now = Math.max(begin - 1, 0); now <= Math.min(begin + 1, 287); now++) {
+                    GuideDesk desk = desk(new int[][] {{0, from, from + 1, 5, 1}});
+                    desk.recorder(1, lead, 0, 2000);
+                    desk.plan(1);
+                    desk.clock(now);
+                    String name = "from " + from + ", lead " + lead + ", clock " + now;
+                    Check.due(name, 5, desk.plan(1));
+                    candidates(name, desk, 4, begin < now ? 1 : 0);
+                }
+            }
+        }
+    }
+
     private static void underWayComesFirst() {
+        Check.promise(17, "Of all such sets: those with the most that are UNDER WAY");
         GuideDesk desk = desk(new int[][] {{0, 10, 30, 1, 1}, {1, 20, 30, 7, 1}, {2, 40, 50, 1, 1}});
         Check.due("the first plan", 1, desk.plan(1));
         desk.clock(11);
@@ -271,6 +444,7 @@ public final class PlanTest {
     }
 
     private static void underWayByItsMarks() {
+        Check.promise(17, "a CANDIDATE is UNDER WAY if one such has its CHANNEL, TITLE, EPISODE and first SLOT");
         GuideDesk desk = desk(new int[][] {{0, 10, 30, 5, 1}});
         desk.plan(1);
         desk.clock(12);
@@ -305,6 +479,7 @@ public final class PlanTest {
     }
 
     private static void underWayByItsOwnSpan() {
+        Check.promise(17, "UNDER WAY are the SHOWINGS of the PLAN at hand whose SPAN begins ahead of it");
         // The span is the one of the plan at hand, not by what the recorder became.
         GuideDesk desk = desk(new int[][] {{0, 10, 20, 5, 1}});
         desk.recorder(1, 4, 0, 2000);
@@ -331,6 +506,7 @@ public final class PlanTest {
     }
 
     private static void keepsItsOwnTime() {
+        Check.promise(18, "Of the i-th CANDIDATE of the PLAN at hand: what 0: its SHOWING (by its n)");
         GuideDesk desk = desk(new int[][] {{0, 10, 20, 5, 1}, {1, 15, 20, 2, 1}});
         desk.plan(2);
         desk.clock(100);
@@ -349,6 +525,7 @@ public final class PlanTest {
 
     /** What earlier plans left behind does not matter to the next one. */
     private static void plansAnew() {
+        Check.promise(17, "it is the one at hand");
         GuideDesk desk = desk(new int[][] {{0, 0, 10, 5, 1}, {1, 5, 10, 5, 1}, {2, 6, 10, 5, 1}, {3, 7, 10, 5, 2}});
         for (int i = 0; i < 3; i++) {
             Check.due("crowded", 5, desk.plan(4));
@@ -366,15 +543,51 @@ public final class PlanTest {
         }
     }
 
-    private static void noSuchCandidate() {
+    private static void everyWhy() {
+        Check.promise(18, "2: WHY not: 0 it is in; 3: the CANDIDATE in the PLAN that took its place; else NONE");
+        GuideDesk desk = desk(new int[][] {{0, 4, 6, 7, 1}, {0, 10, 20, 5, 1}, {1, 15, 25, 4, 1}, {2, 16, 27, 5, 1},
+            {3, 50, 70, 3, 1}});
+        desk.clock(5);
+        desk.recorder(1, 0, 0, 29);
+        Check.due("the plan", 5, desk.plan(5));
+        candidates("every why", desk, 0, 0, 1, 2, 3, 4);
+        candidates("every why", desk, 1, 0, 1, 0, 0, 0);
+        candidates("every why", desk, 2, 1, 0, 3, 2, 4);
+        candidates("every why", desk, 3, -1, -1, 1, 1, -1);
+        candidates("every why", desk, 4, 0, 0, 0, 0, 0);
+    }
+
+    private static void withoutAPlan() {
+        Check.promise(18, "NONE without a PLAN");
         GuideDesk desk = desk(new int[][] {{0, 10, 20, 5, 1}});
-        Check.due("without a plan", -1, desk.candidate(0, 1));
-        desk.plan(1);
-        Check.due("with a plan", 1, desk.candidate(0, 1));
-        int[][] wrong = {{-1, 0}, {1, 0}, {0, -1}, {0, 5}, {14, 0}, {Integer.MAX_VALUE, 0}, {Integer.MIN_VALUE, 0},
-            {0, Integer.MAX_VALUE}, {0, Integer.MIN_VALUE}};
+        desk.plan(2);
+        desk.plan(-1);
+        for (int what = -1; what <= 5; what++) {
+            Check.due("what " + what, -1, desk.candidate(0, what));
+        }
+        Check.due("a plan of none", 0, desk.plan(0));
+        for (int what = -1; what <= 5; what++) {
+            Check.due("of none, what " + what, -1, desk.candidate(0, what));
+        }
+    }
+
+    private static void noSuchCandidate() {
+        Check.promise(18, "NONE for others");
+        GuideDesk desk = desk(new int[][] {{0, 10, 20, 5, 1}, {0, 30, 40, 5, 2}});
+        desk.plan(2);
+        Check.due("the first", 1, desk.candidate(0, 1));
+        Check.due("the last", 1, desk.candidate(1, 1));
+        Check.due("the last thing", 0, desk.candidate(1, 4));
+        int[][] wrong = {{-1, 0}, {2, 0}, {13, 0}, {14, 0}, {Check.LEAST, 0}, {Check.GREATEST, 0}, {0, -1}, {0, 5},
+            {0, Check.LEAST}, {0, Check.GREATEST}, {-1, -1}, {2, 5}};
         for (int[] row : wrong) {
             Check.due("candidate " + row[0] + " " + row[1], -1, desk.candidate(row[0], row[1]));
         }
+        // There were more in the plan ahead.
+        desk.plan(1);
+        Check.due("the last of the plan ahead", -1, desk.candidate(1, 0));
+        GuideDesk most = fifteen();
+        Check.due("the fourteenth", 13, most.candidate(13, 0));
+        Check.due("a fifteenth", -1, most.candidate(14, 0));
     }
 }

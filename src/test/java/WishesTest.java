@@ -2,11 +2,15 @@
 public final class WishesTest {
     public static void main(String[] args) {
         variables();
+        variablesAtTheirEdges();
         arithmetic();
+        comparisonsAtTheirEdges();
         wrapAround();
         binding();
         first();
+        firstOfNoEpisode();
         weights();
+        weightsAtTheirEdges();
         textsTakePlace();
         noSuchOnes();
         deepest();
@@ -31,6 +35,7 @@ public final class WishesTest {
     }
 
     private static void variables() {
+        Check.promise(16, "VARS are of a SHOWING (trust: of the SOURCE of its NOTICE); live: its NOTICE is so");
         condition(true, "title == 7");
         condition(true, "episode == 3");
         condition(true, "channel == 2");
@@ -53,7 +58,28 @@ public final class WishesTest {
         Check.due("as known before", 0, desk.holds(0, 0, 2));
     }
 
+    private static void variablesAtTheirEdges() {
+        Check.promise(16, "VARS are of a SHOWING");
+        String least = "title == 1 and episode == 0 and channel == 0 and from == 0 and until == 1 and length == 1 and trust == 1";
+        String most = "title == 31 and episode == 31 and channel == 5 and from == 287 and until == 288 and trust == 9";
+        String whole = "channel == 1 and from == 0 and until == 288 and length == 288";
+        GuideDesk desk = new GuideDesk();
+        desk.channels(6);
+        desk.source(1);
+        desk.source(9);
+        desk.notice(0, 0, 0, 1, 1, 0, false);
+        desk.notice(1, 5, 287, 288, 31, 31, true);
+        desk.notice(1, 1, 0, 288, 2, 1, true);
+        Check.due("read", 0, Check.read(desk, "never if " + least + "; never if " + whole + "; never if " + most + ";"));
+        for (int rule = 0; rule < 3; rule++) {
+            for (int k = 0; k < 3; k++) {
+                Check.due("rule " + rule + " of showing " + k, rule == k ? 1 : 0, desk.holds(rule, k, 3));
+            }
+        }
+    }
+
     private static void arithmetic() {
+        Check.promise(16, "E: PART {('+' | '-') PART}.   PART: UNIT {'*' UNIT}.   UNIT: INT | VAR | '(' E ')'");
         condition(true, "10 - 3 - 2 == 5");
         condition(true, "10 - (3 - 2) == 9");
         condition(true, "2 + 3 * 4 == 14");
@@ -72,7 +98,38 @@ public final class WishesTest {
         condition(true, "0007 == title");
     }
 
+    private static void comparisonsAtTheirEdges() {
+        Check.promise(16, "LIT: E ('==' | '!=' | '<' | '<=') E");
+        // Each row: a number, and whether it is == != < <= to 7, the title.
+        String[] numbers = {"6", "7", "8", "0", "0 - 7", "0 - 8"};
+        String[] due = {"0100", "1001", "0111", "0100", "0100", "0100"};
+        String[] signs = {"==", "!=", "<", "<="};
+        for (int i = 0; i < numbers.length; i++) {
+            for (int j = 0; j < signs.length; j++) {
+                condition(due[i].charAt(j) == '1', "title " + signs[j] + " " + numbers[i]);
+            }
+        }
+    }
+
     private static void wrapAround() {
+        Check.promise(16, "Ints of 32 bits that wrap");
+        String greatest = "(4096*4096*127+(4096*4096-1))";
+        String least = "(0-4096*4096*127-4096*4096)";
+        condition(true, "0 < " + greatest);
+        condition(true, least + " < 0");
+        condition(true, greatest + " + 1 == " + least);
+        condition(true, least + " - 1 == " + greatest);
+        condition(true, greatest + " + " + greatest + " == 0 - 2");
+        condition(true, least + " + " + least + " == 0");
+        condition(true, "0 - " + least + " == " + least);
+        condition(true, greatest + " * " + greatest + " == 1");
+        condition(true, greatest + " * 2 == 0 - 2");
+        condition(true, least + " * 2 == 0");
+        condition(true, least + " * (0 - 1) == " + least);
+        condition(true, least + " < " + greatest);
+        condition(false, greatest + " <= " + least);
+        // 9999 * 9999 * 9999 is 999700029999, of which 32 bits are -1027349969.
+        condition(true, "9999 * 9999 * 9999 == 0 - 9999 * 9999 * 10 - 2755 * 9999 - 2714");
         condition(true, "9999 * 9999 * 9999 < 0");
         condition(true, "4096 * 4096 * 256 == 0");
         condition(true, "4096 * 4096 * 128 < 0");
@@ -83,6 +140,7 @@ public final class WishesTest {
     }
 
     private static void binding() {
+        Check.promise(16, "COND: ALL {'or' ALL}.   ALL: LIT {'and' LIT}");
         condition(true, "live or live and 1 == 2");
         condition(true, "1 == 2 and live or live");
         condition(false, "1 == 2 and live or 1 == 2");
@@ -95,6 +153,7 @@ public final class WishesTest {
     }
 
     private static void first() {
+        Check.promise(16, "first: no SHOWING of a lesser number is ONE with it");
         GuideDesk desk = new GuideDesk();
         desk.channels(2);
         desk.source(1);
@@ -113,7 +172,24 @@ public final class WishesTest {
         Check.due("as known before", 0, desk.holds(0, 1, 5));
     }
 
+    private static void firstOfNoEpisode() {
+        Check.promise(16, "first: no SHOWING of a lesser number is ONE with it");
+        GuideDesk desk = new GuideDesk();
+        desk.source(1);
+        int[] episodes = {0, 0, 31, 0, 31, 1};
+        for (int i = 0; i < episodes.length; i++) {
+            desk.notice(0, 0, i, i + 1, 31, episodes[i], false);
+        }
+        Check.read(desk, "never if first;");
+        int[] due = {1, 1, 1, 1, 0, 1};
+        for (int k = 0; k < due.length; k++) {
+            Check.due("showing " + k, due[k], desk.holds(0, k, 6));
+        }
+    }
+
     private static void weights() {
+        Check.promise(14, "WEIGHT of a SHOWING: if a never holds 0; else the greatest INT of the wishes that hold, "
+            + "0 without one");
         GuideDesk desk = desk();
         Check.due("without wishes", 0, desk.showing(0, 2, 6));
         Check.read(desk, "wish 5 if live; wish 9 if title == 7; wish 7 if first; wish 1000 if title == 9;");
@@ -128,7 +204,27 @@ public final class WishesTest {
         Check.due("no wish holds", 0, desk.showing(1, 2, 6));
     }
 
+    private static void weightsAtTheirEdges() {
+        Check.promise(14, "6: WEIGHT");
+        String[] texts = {"", "wish 1 if live;", "wish 1000 if live;", "wish 999 if live; wish 1000 if live;",
+            "wish 1000 if live; wish 999 if live;", "wish 1 if live; wish 1 if live;", "never if live;",
+            "never if live; wish 1000 if live;", "wish 1000 if 1 == 2;", "wish 1000 if 1 == 2; wish 1 if live;",
+            "never if 1 == 2; wish 2 if live; never if 1 == 2;"};
+        int[] due = {0, 1, 1000, 1000, 1000, 1, 0, 0, 0, 1, 2};
+        for (int i = 0; i < texts.length; i++) {
+            GuideDesk desk = desk();
+            Check.due("read " + texts[i], 0, Check.read(desk, texts[i]));
+            Check.due("weight by " + texts[i], due[i], desk.showing(0, 2, 6));
+        }
+        GuideDesk desk = desk();
+        Check.read(desk, "wish 1 if live;".repeat(19) + "wish 2 if live;");
+        Check.due("by the twentieth rule", 2, desk.showing(0, 2, 6));
+        Check.read(desk, "wish 1 if live;".repeat(19) + "never if live;");
+        Check.due("by a never behind nineteen", 0, desk.showing(0, 2, 6));
+    }
+
     private static void textsTakePlace() {
+        Check.promise(4, "A text with a FAULT changes nothing; else it is in place of the one ahead");
         GuideDesk desk = desk();
         Check.read(desk, "wish 5 if live; wish 6 if live;");
         Check.read(desk, "wish 4 if live;");
@@ -144,10 +240,13 @@ public final class WishesTest {
     }
 
     private static void noSuchOnes() {
+        Check.promise(16, "1, 0. NONE: no such ones");
         GuideDesk desk = desk();
+        Check.due("without a rule", -1, desk.holds(0, 0, 2));
         Check.read(desk, "wish 5 if live; wish 6 if first;");
-        int[][] wrong = {{-1, 0, 2}, {2, 0, 2}, {0, -1, 2}, {0, 2, 2}, {0, 0, 3}, {0, 0, -1}, {0, 0, 0},
-            {Integer.MAX_VALUE, 0, 2}, {0, Integer.MAX_VALUE, 2}, {0, 0, Integer.MIN_VALUE}};
+        int[][] wrong = {{-1, 0, 2}, {2, 0, 2}, {20, 0, 2}, {Check.LEAST, 0, 2}, {Check.GREATEST, 0, 2}, {0, -1, 2},
+            {0, 2, 2}, {0, 1, 1}, {0, Check.LEAST, 2}, {0, Check.GREATEST, 2}, {0, 0, 3}, {0, 0, -1}, {0, 0, 0},
+            {0, 0, Check.LEAST}, {0, 0, Check.GREATEST}};
         for (int[] row : wrong) {
             Check.due("holds " + row[0] + " " + row[1] + " " + row[2], -1, desk.holds(row[0], row[1], row[2]));
         }
@@ -156,11 +255,12 @@ public final class WishesTest {
     }
 
     private static void deepest() {
-        String left = Check.repeat("1+2*(", 6) + "1+2*3" + Check.repeat(")", 6);
+        Check.promise(16, "Whether a RULE holds");
+        String left = "1+2*(".repeat(6) + "1+2*3" + ")".repeat(6);
         condition(true, "1 == 2 or live and " + left + " == " + left);
         condition(true, "1 == 2 or live and 0 + 1 * title == 1 + 3 * (1 + 1 * (1 + 0 * (1 + 1 * (1 + 1 * (1 + 1 * (1)))))) ");
         condition(true, left + " == 511");
-        condition(true, "1 == 2" + Check.repeat(" or 1 == 2", 90) + " or live");
-        condition(false, "live" + Check.repeat(" and live", 190) + " and 1 == 2");
+        condition(true, "1 == 2" + " or 1 == 2".repeat(90) + " or live");
+        condition(false, "live" + " and live".repeat(190) + " and 1 == 2");
     }
 }
