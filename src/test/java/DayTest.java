@@ -63,7 +63,7 @@ public final class DayTest {
     }
 
     private static void saysOfNoSuchOnes() {
-        Check.promise(13, "NONE: no such ones");
+        Check.promise(13, "NONE: .. no such ones");
         GuideDesk desk = new GuideDesk();
         desk.channels(2);
         desk.source(5);
@@ -129,7 +129,7 @@ public final class DayTest {
     }
 
     private static void knownBy() {
-        Check.promise(12, "as KNOWN by n: the first n of them");
+        Check.promise(12, "as KNOWN by n the first n of them");
         GuideDesk desk = new GuideDesk();
         desk.source(5);
         for (int i = 0; i < 5; i++) {
@@ -143,7 +143,7 @@ public final class DayTest {
     }
 
     private static void sentOfNoSuchOnes() {
-        Check.promise(12, "NONE: no such ones");
+        Check.promise(12, "NONE: .. no such ones");
         GuideDesk desk = new GuideDesk();
         desk.channels(2);
         desk.source(5);
@@ -163,7 +163,7 @@ public final class DayTest {
     }
 
     private static void gaps() {
-        Check.promise(12, "NONE: a GAP (nothing said, or that nothing is sent)");
+        Check.promise(12, "NONE: a GAP .. (nothing said, or that nothing is sent)");
         GuideDesk desk = new GuideDesk();
         desk.source(5);
         desk.source(4);

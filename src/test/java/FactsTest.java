@@ -1,3 +1,5 @@
+import java.util.Arrays;
+
 /** Promises 1 a new object, 6 channels, 7 source, 8 notice, 9 over, 10 recorder, 11 clock, 19 count. */
 public final class FactsTest {
     public static void main(String[] args) {
@@ -192,7 +194,7 @@ public final class FactsTest {
     }
 
     private static void noticeRefused() {
-        Check.promise(8, "NONE, and nothing happens: no such SOURCE, CHANNEL, a not 0 .. b - 1, b above 288, "
+        Check.promise(8, "NONE, and nothing happens: .. no such SOURCE, CHANNEL, a not 0 .. b - 1, b above 288, "
             + "no such TITLE (0 .. 31), EPISODE");
         // Each row: source, channel, a, b, title, episode; one of them is wrong.
         int[][] wrong = {{-1, 0, 0, 1, 1, 1}, {2, 0, 0, 1, 1, 1}, {6, 0, 0, 1, 1, 1}, {Check.LEAST, 0, 0, 1, 1, 1},
@@ -204,13 +206,13 @@ public final class FactsTest {
             {0, 0, 5, 6, -1, 1}, {0, 0, 5, 6, 32, 1}, {0, 0, 5, 6, Check.LEAST, 1}, {0, 0, 5, 6, Check.GREATEST, 1},
             {0, 0, 5, 6, 1, -1}, {0, 0, 5, 6, 1, 32}, {0, 0, 5, 6, 1, Check.LEAST}, {0, 0, 5, 6, 1, Check.GREATEST}};
         for (int[] row : wrong) {
-            Refusal.due("notice " + java.util.Arrays.toString(row), -1,
+            Refusal.due("notice " + Arrays.toString(row), -1,
                 desk -> desk.notice(row[0], row[1], row[2], row[3], row[4], row[5], true));
         }
     }
 
     private static void noticeOfNothing() {
-        Check.promise(8, "With TITLE 0 EPISODE and live are not looked at but for being such");
+        Check.promise(8, "(With TITLE 0 EPISODE and live are not looked at but for being such.)");
         int[] wrong = {-1, 32, Check.LEAST, Check.GREATEST};
         for (int episode : wrong) {
             Refusal.due("title 0, episode " + episode, -1, desk -> desk.notice(0, 0, 5, 6, 0, episode, false));
@@ -235,7 +237,7 @@ public final class FactsTest {
     }
 
     private static void overRefused() {
-        Check.promise(9, "NONE, and nothing happens: no such CHANNEL, t not 1 .. 287, no such d");
+        Check.promise(9, "NONE, and nothing happens: .. no such CHANNEL, t not 1 .. 287, no such d");
         int[][] wrong = {{-1, 10, 1}, {2, 10, 1}, {6, 10, 1}, {Check.LEAST, 10, 1}, {Check.GREATEST, 10, 1}, {0, 0, 1},
             {0, -1, 1}, {0, 288, 1}, {0, Check.LEAST, 1}, {0, Check.GREATEST, 1}, {0, 20, 0}, {0, 20, -1}, {0, 20, 49},
             {0, 20, Check.LEAST}, {0, 20, Check.GREATEST}};
@@ -314,7 +316,7 @@ public final class FactsTest {
             {2, Check.LEAST, 0, 100}, {2, Check.GREATEST, 0, 100}, {2, 0, Check.LEAST, 100}, {2, 0, Check.GREATEST, 100},
             {2, 0, 0, Check.LEAST}, {2, 0, 0, Check.GREATEST}};
         for (int[] row : wrong) {
-            Refusal.due("recorder " + java.util.Arrays.toString(row), false,
+            Refusal.due("recorder " + Arrays.toString(row), false,
                 desk -> desk.recorder(row[0], row[1], row[2], row[3]));
         }
         GuideDesk desk = ten();
@@ -346,7 +348,7 @@ public final class FactsTest {
 
     private static void count() {
         Check.promise(19, "0 CHANNELS, 1 SOURCES, 2 FACTS, 3 RULES, 4 the CLOCK's SLOT, 5 CANDIDATES of the PLAN at hand, "
-            + "6 how many are in it, 7 its SPANS together, 8 its n, 9 bytes on the tape");
+            + "6 how many are in it, 7 its SPANS together, 8 its n .. 9 bytes on the tape");
         GuideDesk desk = desk(3, 1, 2);
         desk.notice(0, 2, 5, 9, 1, 1, false);
         desk.notice(1, 2, 7, 12, 2, 1, false);

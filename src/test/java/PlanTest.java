@@ -162,6 +162,16 @@ public final class PlanTest {
         candidates("two of three", desk, 4, 0, 0, 0, 0);
         Check.due("members", 3, desk.count(6));
         Check.due("spans", 26, desk.count(7));
+        // Of two that are under way one must go: the heavier stays, though it is the longer, and one has begun beside them.
+        GuideDesk kept = desk(new int[][] {{0, 10, 20, 4, 1}, {1, 10, 60, 5, 1}, {2, 12, 15, 1, 1}, {3, 70, 72, 1, 2}});
+        kept.recorder(2, 0, 0, 2000);
+        Check.due("both", 9, kept.plan(2));
+        kept.clock(13);
+        kept.recorder(1, 0, 0, 2000);
+        Check.due("the heavier", 6, kept.plan(4));
+        candidates("the heavier", kept, 1, 0, 1, 0, 1);
+        candidates("the heavier", kept, 2, 3, 0, 1, 0);
+        candidates("the heavier", kept, 4, 1, 1, 0, 0);
     }
 
     private static void tuners() {
@@ -388,7 +398,7 @@ public final class PlanTest {
     }
 
     private static void underWayToTheSlot() {
-        Check.promise(17, "UNDER WAY are the SHOWINGS of the PLAN at hand whose SPAN begins ahead of it");
+        Check.promise(17, "UNDER WAY .. are the SHOWINGS of the PLAN at hand whose SPAN begins ahead of it");
         for (int lead = 0; lead <= 6; lead++) {
             for (int from : new int[] {2, 6, 10, 286, 287}) {
                 int begin = Math.max(from - lead, 0);
@@ -479,7 +489,7 @@ public final class PlanTest {
     }
 
     private static void underWayByItsOwnSpan() {
-        Check.promise(17, "UNDER WAY are the SHOWINGS of the PLAN at hand whose SPAN begins ahead of it");
+        Check.promise(17, "UNDER WAY .. are the SHOWINGS of the PLAN at hand whose SPAN begins ahead of it");
         // The span is the one of the plan at hand, not by what the recorder became.
         GuideDesk desk = desk(new int[][] {{0, 10, 20, 5, 1}});
         desk.recorder(1, 4, 0, 2000);
@@ -544,7 +554,7 @@ public final class PlanTest {
     }
 
     private static void everyWhy() {
-        Check.promise(18, "2: WHY not: 0 it is in; 3: the CANDIDATE in the PLAN that took its place; else NONE");
+        Check.promise(18, "2: WHY not: 0 it is in, 1 .., 2 .., 3 .., 4 ..; 3: the CANDIDATE in the PLAN that took its place");
         GuideDesk desk = desk(new int[][] {{0, 4, 6, 7, 1}, {0, 10, 20, 5, 1}, {1, 15, 25, 4, 1}, {2, 16, 27, 5, 1},
             {3, 50, 70, 3, 1}});
         desk.clock(5);
@@ -558,7 +568,7 @@ public final class PlanTest {
     }
 
     private static void withoutAPlan() {
-        Check.promise(18, "NONE without a PLAN");
+        Check.promise(18, "NONE .. without a PLAN");
         GuideDesk desk = desk(new int[][] {{0, 10, 20, 5, 1}});
         desk.plan(2);
         desk.plan(-1);

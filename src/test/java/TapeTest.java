@@ -38,7 +38,7 @@ public final class TapeTest {
     }
 
     private static void feed() {
-        Check.promise(2, "Twenty bytes come behind the tape: how many it has");
+        Check.promise(2, "Twenty bytes .. come behind the tape: how many it has");
         GuideDesk desk = new GuideDesk();
         for (int i = 1; i <= 100; i++) {
             Check.due("feed " + i, 20 * i, desk.feed(0, 0, 0, 0, 0));
@@ -122,7 +122,7 @@ public final class TapeTest {
     }
 
     private static void read() {
-        Check.promise(4, "The tape is read: 0, or the number of its FAULT");
+        Check.promise(4, "The tape .. is read: 0, or the number of its FAULT");
         GuideDesk desk = new GuideDesk();
         Check.due("a good text", 0, Check.read(desk, "wish 1 if live; never if first;"));
         Check.due("rules", 2, desk.count(3));
@@ -200,7 +200,7 @@ public final class TapeTest {
     }
 
     private static void everyByte() {
-        Check.promise(4, "TOKENS; all else is no TOKEN");
+        Check.promise(4, "TOKENS .. all else, is no TOKEN");
         for (int b = 0; b < 256; b++) {
             String text = "never if live" + (char) b + ";";
             if (b == 9 || b == 10 || b == 13 || b == 32) {
@@ -239,7 +239,7 @@ public final class TapeTest {
     }
 
     private static void words() {
-        Check.promise(4, "WORDS (letters a .. z, 8 at most); a longer one is no TOKEN");
+        Check.promise(4, "WORDS (letters a .. z, 8 at most) .. A longer one .. is no TOKEN");
         Check.fault("wish 5 if episode == 1;", 0, -1);
         Check.fault("wish 5 if titles == 1;", 1, 10);
         Check.fault("wish 5 if titl == 1;", 1, 10);
@@ -260,7 +260,7 @@ public final class TapeTest {
     }
 
     private static void ints() {
-        Check.promise(4, "INTS (1 to 4 digits); a longer one is no TOKEN");
+        Check.promise(4, "INTS (1 to 4 digits) .. A longer one .. is no TOKEN");
         Check.fault("wish 5 if 0 == 9999;", 0, -1);
         Check.fault("wish 5 if 0000 == 0009;", 0, -1);
         Check.fault("wish 5 if 10000 == 1;", 1, 10);
@@ -276,7 +276,7 @@ public final class TapeTest {
     }
 
     private static void signs() {
-        Check.promise(4, "TOKENS, the longest that can be; SIGNS ; + - * == != < <= ( )");
+        Check.promise(4, "TOKENS, the longest that can be .. SIGNS ; + - * == != < <= ( )");
         Check.fault("never if 1<2;never if 1<=2;never if 1!=2;never if 1==2;never if(1)+2-3*4<5;", 0, -1);
         Check.fault("never if 1 = 2;", 1, 11);
         Check.fault("never if 1 ! 2;", 1, 11);
@@ -411,7 +411,7 @@ public final class TapeTest {
     }
 
     private static void roomForRules() {
-        Check.promise(4, "2 ROOM: a 21st RULE (at its first TOKEN)");
+        Check.promise(4, "2 ROOM: .. a 21st RULE (at its first TOKEN)");
         String most = "never if live;".repeat(20);
         Check.fault(most, 0, -1);
         Check.fault(most + "\n", 0, -1);
@@ -423,7 +423,7 @@ public final class TapeTest {
         Check.fault(most + "live", 1, most.length());
         Check.fault(most + "12345", 1, most.length());
         Check.fault(most + "#", 1, most.length());
-        Check.promise(4, "2 ROOM: a 21st RULE (at its first TOKEN)");
+        Check.promise(4, "2 ROOM: .. a 21st RULE (at its first TOKEN)");
         GuideDesk desk = new GuideDesk();
         Check.read(desk, "wish 3 if live;".repeat(20));
         Check.due("twenty rules", 20, desk.count(3));
@@ -432,7 +432,7 @@ public final class TapeTest {
     }
 
     private static void roomForOpen() {
-        Check.promise(4, "2 ROOM: a 7th ( within one another (at it)");
+        Check.promise(4, "2 ROOM: .. a 7th ( within one another (at it)");
         Check.fault("never if ((((((1)))))) == 1;", 0, -1);
         Check.fault("never if (((((((1))))))) == 1;", 2, 15);
         Check.fault("never if 1 == (((((( (1", 2, 21);
@@ -451,7 +451,7 @@ public final class TapeTest {
     }
 
     private static void allRoomTaken() {
-        Check.promise(4, "2 ROOM: a 401st TOKEN; a 21st RULE; a 7th ( within one another");
+        Check.promise(4, "2 ROOM: a 401st TOKEN; a 21st RULE ..; a 7th ( within one another");
         // Twenty tokens a rule, twenty rules.
         String rule = "wish 9 if((((((1))))))<1;";
         String text = rule.repeat(20);

@@ -99,7 +99,7 @@ public final class WishesTest {
     }
 
     private static void comparisonsAtTheirEdges() {
-        Check.promise(16, "LIT: E ('==' | '!=' | '<' | '<=') E");
+        Check.promise(16, "LIT: .. E ('==' | '!=' | '<' | '<=') E");
         // Each row: a number, and whether it is == != < <= to 7, the title.
         String[] numbers = {"6", "7", "8", "0", "0 - 7", "0 - 8"};
         String[] due = {"0100", "1001", "0111", "0100", "0100", "0100"};
