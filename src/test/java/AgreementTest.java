@@ -35,7 +35,9 @@ public final class AgreementTest {
         int length = seed % 20 == 0 ? 400 : 30 + random.nextInt(120);
         begin();
         for (int i = 0; i < length && isSound && asked < MOST_CALLS; i++) {
-            if (seed % 2 == 0) {
+            if (seed % 10 == 9) {
+                callForCrowds();
+            } else if (seed % 2 == 0) {
                 call();
             } else {
                 callForPlans();
@@ -129,6 +131,48 @@ public final class AgreementTest {
         } else {
             plan();
         }
+    }
+
+    /** Plans of many candidates with like weights, while tuners and room come and go: several are under way at once. */
+    private void callForCrowds() {
+        int lot = random.nextInt(100);
+        if (oracle.count(2) < 13) {
+            crowd();
+        } else if (oracle.count(4) == 0) {
+            recorder(3, 2000);
+            plan();
+            int t = 8 + random.nextInt(16);
+            due("clock " + t, oracle.clock(t), desk.clock(t));
+        } else if (lot < 35) {
+            recorder(1 + random.nextInt(3), 20 + random.nextInt(120));
+        } else if (lot < 45) {
+            clock();
+        } else if (lot < 50) {
+            over();
+        } else {
+            plan();
+        }
+    }
+
+    private void crowd() {
+        if (oracle.count(2) == 0) {
+            text("wish 2 if trust < 9; wish 3 if live; wish 3 if title < 3;");
+            read();
+        }
+        int channel = random.nextInt(oracle.count(0));
+        int a = random.nextInt(40);
+        int b = a + 1 + random.nextInt(20);
+        int title = 1 + random.nextInt(9);
+        boolean live = random.nextBoolean();
+        due("notice 0 " + channel + " " + a + " " + b + " " + title + " 1 " + live,
+            oracle.notice(0, channel, a, b, title, 1, live), desk.notice(0, channel, a, b, title, 1, live));
+    }
+
+    private void recorder(int tuners, int room) {
+        int lead = random.nextInt(3);
+        int tail = random.nextInt(3);
+        due("recorder " + tuners + " " + lead + " " + tail + " " + room, oracle.recorder(tuners, lead, tail, room),
+            desk.recorder(tuners, lead, tail, room));
     }
 
     private void clock() {

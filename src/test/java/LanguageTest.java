@@ -20,6 +20,8 @@ public final class LanguageTest {
         for (String word : ruledOut) {
             Check.due(word, 0, count("\\b" + word + "\\b", code));
         }
+        Check.due("library functions beside those in use", 0,
+            count("\\b(Arrays|Integer|Long|Math|String|System)\\.(?!(fill|bitCount|max|min|arraycopy)\\()", code));
         Check.due("lambdas", 0, count("->", code));
         Check.due("method references", 0, count("::", code));
         Check.due("static blocks", 0, count("static\\s*\\{", code));
